@@ -1172,7 +1172,7 @@ public final class PhraseDesk {
     /** Runs programs; a method that answers a Value answers null once the run has failed. */
     private static final class Runner {
         private static final int LEN_NAME = (12 * 27 + 5) * 27 + 14;
-        private static final double BIGGEST = 1e12;
+        private static final long BIGGEST = 1000000000000L;
 
         final Value nothing;
         final Converters converters;
@@ -1483,7 +1483,7 @@ public final class PhraseDesk {
                 return fail(BY_ZERO);
             }
             double real = op == '+' ? a + b : op == '-' ? a - b : op == '*' ? a * b : a / b;
-            return real > BIGGEST || real < -BIGGEST ? fail(TOO_BIG) : Value.ofReal(real);
+            return real > (double) BIGGEST || real < (double) -BIGGEST ? fail(TOO_BIG) : Value.ofReal(real);
         }
 
         private Value variable(int name) {

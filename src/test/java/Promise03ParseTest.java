@@ -8,6 +8,7 @@ final class Promise03ParseTest {
         bothSidesOfSet();
         depth();
         firstErrorCounts();
+        fullTexts();
         programs();
         Check.end();
     }
@@ -229,6 +230,20 @@ final class Promise03ParseTest {
         error("1234567 $", 1, 0);
         error(") (((((1", 2, 0);
         error("(((((1 )) )", 3, 5);
+    }
+
+    /** 40 tokens and the end behind them. */
+    private static void fullTexts() {
+        String ones = "-1+1-1+1-1+1-1+1-1+1-1+1-1+1-1+1-1+1-1+1";
+        Check.same("40 tokens", Desk.of(ones), "0");
+        String names = "-1+1-1+1-1+1-1+1-1+1-1+1-1+1-1+1-1+1-1.a";
+        read(names);
+        error(ones.substring(0, 39) + "+", 2, 39);
+        error(ones.substring(1) + "+", 2, 40);
+        error("((((1+1-1+1-1+1-1+1-1+1-1+1-1+1-1+1-1+1)", 2, 40);
+        error("                                        ", 2, 40);
+        error("1                                      $", 1, 39);
+        error("                                (((( (( ", 3, 38);
     }
 
     private static void programs() {

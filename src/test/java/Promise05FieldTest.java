@@ -4,7 +4,27 @@ final class Promise05FieldTest {
         wrongInputs();
         states();
         namesakes();
+        allApart();
         Check.end();
+    }
+
+    /** Every field of an object and of its ancestors has a value of its own, and so has every object. */
+    private static void allApart() {
+        Desk d = new Desk().type(-1).type(0).type(1).type(2).type(3);
+        for (int i = 0; i < 25; i++) {
+            d.x().field(i / 5, i + 1, Desk.ANY);
+        }
+        d.make(4).make(4);
+        d.value("#n=0");
+        int next = d.parse("#n=#n+1");
+        for (int i = 0; i < 50; i++) {
+            d.x().run(next, -1);
+            Check.same("put", d.x().put(i % 2, i / 2 + 1), 0);
+        }
+        for (int i = 0; i < 25; i++) {
+            Check.same("field " + i, d.value("" + (char) ('a' + i), 1), "" + (2 * i + 2));
+            Check.same("of the other", d.ran(i + 2, 0), "" + (2 * i + 1));
+        }
     }
 
     private static void wrongInputs() {

@@ -7,6 +7,7 @@ final class Promise06MethodTest {
         weights();
         converted();
         hidden();
+        many();
         actions();
         Check.end();
     }
@@ -79,6 +80,10 @@ final class Promise06MethodTest {
         e.method(4, "g", Desk.ANY, Desk.ANY, 0, 3).method(4, "g", 8, 8, 0, 4).make(4);
         e.x().run(e.parse("me()"), 0);
         e.x().keep(Desk.code("o"));
+        e.method(4, "s", 9, 9, 0, 5).method(3, "s", 12, 8, 0, 6).method(3, "s", 11, 8, 0, 7);
+        e.method(3, "u", 11, 11, 0, 8).method(3, "u", 12, 10, 0, 9);
+        Check.same("2 and 2 is as much as 0 and 4", e.value("u(#o,#o)", 0), "8");
+        Check.same("6 and 6 is more than 0 and 8", e.value("s(#o,#o)", 0), "6");
         Check.same("16 and 8 is as much as 8 and 16", e.value("f(#o,#o)", 0), "1");
         Check.same("0 for NULL though it is ANY", e.value("f(null,#o)", 0), "1");
         Check.same("0 for the other NULL", e.value("f(#o,null)", 0), "2");
@@ -104,6 +109,30 @@ final class Promise06MethodTest {
         Check.same("NULL fits TEXT but not INT", d.value("k(null,null)", 0), "failure 8");
         d.converter(Desk.ANY, Desk.INT);
         Check.same("NULL comes from ANY", d.value("k(null,'x')", 0), "'0x'");
+    }
+
+    private static void many() {
+        Desk d = new Desk().type(-1).method(0, "m", Desk.INT, Desk.INT, 0, 1).method(0, "m", Desk.INT, Desk.TEXT, 0, 2);
+        d.method(0, "m", Desk.TEXT, Desk.INT, 0, 3).method(0, "m", Desk.TEXT, Desk.TEXT, 0, 4).make(0);
+        Check.same("INT and INT", d.value("m(1,2)", 0), "1");
+        Check.same("INT and TEXT", d.value("m(1,'2')", 0), "2");
+        Check.same("TEXT and INT", d.value("m('1',2)", 0), "3");
+        Check.same("TEXT and TEXT", d.value("m('1','2')", 0), "4");
+        Check.same("NULL is a TEXT", d.value("m(1,null)", 0) + d.value("m(null,2)", 0), "23");
+        Check.same("a BOOL is none", d.value("m(1,true)", 0) + d.value("m(true,2)", 0), "failure 8failure 8");
+        Desk e = new Desk().type(-1).type(0).type(1).type(2).type(3);
+        int[] types = {1, 2, 3, 4, 5};
+        for (int i = 0; i < 25; i++) {
+            e.method(4 - i / 5, "m", types[i % 5], types[i / 5], 0, i);
+        }
+        e.make(4);
+        String[] values = {"true", "1", "1.5", "'x'", "m"};
+        for (int i = 0; i < 20; i++) {
+            String call = "m(" + values[i % 4] + "," + values[i / 5] + ")";
+            Check.same(call, e.value(call, 0), "" + (i / 5 * 5 + i % 4));
+        }
+        e.method(0, "o", 0, 0, 4, 0);
+        Check.same("the last of 25 candidates", e.value("m(o(),o())", 0), "24");
     }
 
     private static void hidden() {

@@ -167,6 +167,8 @@ final class Promise09RunTest {
         is("true>=false", "failure 1");
         is("null<=null", "failure 1");
         is("1>null", "failure 1");
+        is("'1'<2", "failure 1");
+        is("true<2", "failure 1");
         is("65536*32768<0", "true");
     }
 
