@@ -32,6 +32,20 @@ final class Check {
         same(what, thrown(call), "IllegalStateException");
     }
 
+    /** As argument, and what the desk tells must stay as it was. */
+    static void argument(Desk d, String what, Call call) {
+        String before = d.told();
+        argument(what, call);
+        same("what the desk tells behind " + what, d.told(), before);
+    }
+
+    /** As state, and what the desk tells must stay as it was. */
+    static void state(Desk d, String what, Call call) {
+        String before = d.told();
+        state(what, call);
+        same("what the desk tells behind " + what, d.told(), before);
+    }
+
     private static String thrown(Call call) {
         try {
             call.make();

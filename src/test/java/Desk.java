@@ -110,6 +110,16 @@ final class Desk {
         }
     }
 
+    /** All that the desk tells of its state: every about, every result and every character of the result. */
+    String told() {
+        StringBuilder told = new StringBuilder();
+        for (int what = 0; what <= 4; what++) {
+            told.append(x().about(what)).append(' ');
+        }
+        told.append(x().result(2)).append(' ').append(latest());
+        return told.toString();
+    }
+
     private String chars() {
         StringBuilder chars = new StringBuilder();
         for (int i = 0; i < x().result(1); i++) {
